@@ -932,7 +932,7 @@ public final class GuildPiece {
 
     /** The tape, and how it is read: token by token, up to the first fault. */
     private static final class Tape {
-        private static final int LONGEST = 120;
+        private static final int LONGEST = 120, NO_OTHER = -1;
 
         private final int[] letters = new int[LONGEST];
         private int length;
@@ -940,6 +940,9 @@ public final class GuildPiece {
         private int fault;
         private int place;
         private int number;
+        private int first;
+        private int second;
+        private int third;
 
         private int append(int letter) {
             letters[length] = letter;
@@ -951,7 +954,6 @@ public final class GuildPiece {
         private boolean readInto(Trial t) {
             t.clear();
             at = 0;
-            fault = 0;
             if (!readLaw(t)) {
                 return false;
             }
@@ -968,19 +970,13 @@ public final class GuildPiece {
         }
 
         private boolean readLaw(Trial t) {
-            if (!readLetter('g') || !readNumber(0, MOST_SKILL)) {
+            if (!readLetter('g') || !readThree(0, 60, 0, 99, NO_OTHER)) {
                 return false;
             }
-            t.skill = number;
-            if (!readLetter(',') || !readNumber(0, 60)) {
-                return false;
-            }
-            t.days = number;
-            if (!readLetter(',') || !readNumber(0, 99)) {
-                return false;
-            }
-            t.money = number;
-            return readLetter(';');
+            t.skill = first;
+            t.days = second;
+            t.money = third;
+            return true;
         }
 
         private boolean readOne(Trial t) {
@@ -995,45 +991,39 @@ public final class GuildPiece {
             return fail(1);
         }
 
+        /** The part that must be ahead is one of those told so far, or none. */
         private boolean readPart(Trial t, int kind) {
             at++;
-            if (!readNumber(0, 20)) {
+            if (!readThree(1, 20, 0, t.parts - 1, NO_PART)) {
                 return false;
             }
-            int need = number;
-            if (!readLetter(',') || !readNumber(1, 20)) {
-                return false;
-            }
-            int time = number;
-            if (!readLetter(',') || !readAhead(t.parts)) {
-                return false;
-            }
-            int ahead = number;
-            if (!readLetter(';')) {
-                return false;
-            }
-            t.addPart(kind, need, time, ahead);
+            t.addPart(kind, first, second, third);
             return true;
         }
 
         private boolean readElder(Trial t) {
             at++;
-            if (!readNumber(0, 20)) {
+            if (!readThree(0, 7, 1, 50, NO_OTHER)) {
                 return false;
             }
-            int eye = number;
-            if (!readLetter(',') || !readNumber(0, 7)) {
+            t.addElder(first, second, third);
+            return true;
+        }
+
+        /** Three numbers and their signs: of law, parts and elders alike the first is 0 to 20. */
+        private boolean readThree(int leastSecond, int mostSecond, int leastThird, int mostThird, int orThird) {
+            if (!readNumber(0, 20, NO_OTHER) || !readLetter(',')) {
                 return false;
             }
-            int mild = number;
-            if (!readLetter(',') || !readNumber(1, 50)) {
+            first = number;
+            if (!readNumber(leastSecond, mostSecond, NO_OTHER) || !readLetter(',')) {
                 return false;
             }
-            int price = number;
-            if (!readLetter(';')) {
+            second = number;
+            if (!readNumber(leastThird, mostThird, orThird) || !readLetter(';')) {
                 return false;
             }
-            t.addElder(eye, mild, price);
+            third = number;
             return true;
         }
 
@@ -1045,29 +1035,17 @@ public final class GuildPiece {
             return true;
         }
 
-        private boolean readNumber(int least, int most) {
+        /** A number from least to most, or one other that may stand there too. */
+        private boolean readNumber(int least, int most, int other) {
             int figures = figuresAt(at);
             if (figures < 1 || figures > 2) {
                 return fail(1);
             }
             number = valueAt(at, figures);
-            if (number < least || number > most) {
+            if ((number < least || number > most) && number != other) {
                 return fail(2);
             }
             at += figures;
-            return true;
-        }
-
-        /** The part that must be ahead is one of those told so far, or none. */
-        private boolean readAhead(int toldSoFar) {
-            int start = at;
-            if (!readNumber(0, NO_PART)) {
-                return false;
-            }
-            if (number >= toldSoFar && number != NO_PART) {
-                at = start;
-                return fail(2);
-            }
             return true;
         }
 
@@ -1131,7 +1109,6 @@ public final class GuildPiece {
 
         private void forget() {
             kept = 0;
-            next = 0;
         }
 
         private void keep(Trial t) {

@@ -58,6 +58,13 @@ public final class ForetoldTest {
         c.due("fewest(3)", x.fewest(3), Check.BAD);
         c.due("fewest(-1)", x.fewest(-1), Check.BAD);
         fewest(Check.told("g0,7,0;c1,4,7;w0,4,7;"), "fewer faults need more days", 1, 0, 1);
+        fewest(Check.told("g5,9,4;j0,1,7;b0,4,0;"), "money is only for what is bought", 0, 8, 0);
+        GuildPiece y = Check.told("g0,30,0;" + "w0,1,7;".repeat(7));
+        fewest(y, "seven faults to come", 7, 23, 0);
+        for (int p = 6; p >= 0; p--) {
+            y.make(p);
+            fewest(y, "seven faults, " + p + " to come", 7, 23, p > 0 ? 0 : Check.NONE);
+        }
     }
 
     private static void whatCanBeMade() {
@@ -69,6 +76,10 @@ public final class ForetoldTest {
         GuildPiece x = Check.told("g0,9,0;j0,3,7;j0,3,0;j0,3,1;");
         x.make(0);
         c.due("what is made is not in it", x.can(), 6);
+        x.idle(4);
+        c.due("with fewer days", x.can(), 0);
+        c.due("days are just enough", Check.told("g0,5,0;j0,5,7;").can(), 1);
+        c.due("a day is lacking", Check.told("g0,4,0;j0,5,7;").can(), 0);
     }
 
     private static void fewestFeasts() {
@@ -114,7 +125,9 @@ public final class ForetoldTest {
         }
         c.due("any of three", y.mends(0), 1);
         c.due("the least, not the cheapest", y.mends(1), 1);
-        y.idle(14);
+        y.idle(13);
+        c.due("just as many days", y.mends(1), 1);
+        y.idle(1);
         c.due("the least for which there are days", y.mends(1), 2);
     }
 
@@ -195,7 +208,9 @@ public final class ForetoldTest {
         y.make(0);
         Check.lay(y, 0, 0, 0, 1, 0);
         c.due("it is made", y.skills(0, 0, 1), 0);
+        y.drop(6);
         c.due("what must be ahead is made", y.skills(0, 2, 1), (1 << 21) - (1 << 9));
+        c.due("status behind skills", y.status(), 0);
     }
 
     private static void skillsAreRefused(GuildPiece x) {
@@ -252,6 +267,10 @@ public final class ForetoldTest {
         x.row(2, 0, 24);
         c.due("eight", x.who(0, 2, 0, 8), 0);
         c.due("status", x.status(), 0);
+        x.drop(6);
+        c.due("status behind NULL", x.status(), 1);
+        x.who(0, 2, 0, 8);
+        c.due("status behind who", x.status(), 0);
     }
 
     private static void errs(GuildPiece x, int p, long above, long below) {
@@ -278,6 +297,14 @@ public final class ForetoldTest {
         errs(two, 1, 9, 100);
         GuildPiece three = Check.told("g0,9,0;j9,1,7;e0,0,1;e0,0,1;e0,0,1;");
         errs(three, 1, 243, 250);
+        c.due("err(-1, 0)", three.err(-1, 0), Check.BAD);
+        c.due("err(11, 0)", three.err(11, 0), Check.BAD);
+        c.due("err(0, 2)", three.err(0, 2), Check.BAD);
+        c.due("err(0, -1)", three.err(0, -1), Check.BAD);
+        GuildPiece five = Check.told("g0,9,0;j9,1,7;e0,0,1;e0,0,1;e0,1,1;e0,1,1;e0,1,1;");
+        five.make(0);
+        // three of the five vote for it: of 10 to the 5th, at 3 of 10
+        errs(five, 3, 14623, 25000);
     }
 
     private static void whatDaysAreWorth() {
@@ -303,6 +330,8 @@ public final class ForetoldTest {
         c.due("seed 0", x.drawn(1, 0, 0), Check.BAD);
         c.due("seed 1000000", x.drawn(1, 1000000, 0), Check.BAD);
         c.due("what is 2", x.drawn(1, 1, 2), Check.BAD);
+        c.due("what is -1", x.drawn(1, 1, -1), Check.BAD);
+        c.due("the most draws of the greatest seed", x.drawn(30, 999999, 0), 7);
         c.due("no draw", x.drawn(0, 1, 0), 0);
         // 16807 by 3 leaves 1, by 5 leaves 2
         c.due("a draw of seed 1", x.drawn(1, 1, 0), 2);
@@ -325,5 +354,9 @@ public final class ForetoldTest {
         c.due("what is made is in it", x.drawn(0, 1, 0), 1);
         c.due("with its fault", x.drawn(0, 1, 1), 1);
         c.due("three draws of seed 1 now", x.drawn(3, 1, 0), 7);
+        // 16807 * 5 = 84035, by 3 leaves 2, by 5 leaves 0
+        GuildPiece y = Check.told("g0,60,99;j0,1,7;j0,1,7;j1,1,7;");
+        c.due("a fault twice over", y.drawn(1, 5, 1), 1);
+        c.due("is of the part", y.drawn(1, 5, 0), 4);
     }
 }

@@ -3,7 +3,7 @@ import java.util.Random;
 /** Runs of calls by draws (of fixed seeds): each answer of the class against the naive model's. */
 public final class RandomRunsTest {
     private static final Check c = new Check("random runs");
-    private static final int RUNS = 3000, CALLS = 512;
+    private static final int RUNS = 10000, CALLS = 512;
 
     private final Random draw;
     private final GuildPiece x = new GuildPiece();
@@ -19,7 +19,7 @@ public final class RandomRunsTest {
         int runs = args.length > 0 ? Integer.parseInt(args[0]) : RUNS;
         for (int seed = 0; seed < runs; seed++) {
             RandomRunsTest one = new RandomRunsTest(seed);
-            int calls = 0;
+            int calls = seed % 8 == 0 ? 0 : one.tellOne();
             while (calls < CALLS - 120) {
                 calls += one.step();
             }

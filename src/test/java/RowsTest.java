@@ -86,6 +86,10 @@ public final class RowsTest {
         c.due("copy to another row", x.copy(0, 3, 1, 0, 2), 2);
         c.holds("another row, item 0", isItem(x, 1, 0, 5));
         c.holds("another row, item 1", isItem(x, 1, 1, 5));
+        x.row(0, 2, 5);
+        for (int i = 0; i < 5; i++) {
+            c.holds("a new row, item " + i, isItem(x, 0, i, 0));
+        }
         copiesAreRefused();
     }
 
@@ -140,11 +144,16 @@ public final class RowsTest {
         c.due("status behind none", x.status(), 0);
         x.set(0, 1, 0);
         c.due("status behind PLACE", x.status(), 2);
+        x.set(0, 0, 0);
+        c.due("status behind a set", x.status(), 0);
         x.row(1, 0, -1);
         c.due("status behind SIZE", x.status(), 4);
         x.row(1, 1, 1);
         x.copy(0, 0, 1, 0, 1);
         c.due("status behind STORE", x.status(), 5);
+        x.copy(0, 0, 0, 0, 1);
+        c.due("status behind a copy", x.status(), 0);
+        x.copy(0, 0, 1, 0, 1);
         x.drop(1);
         c.due("status behind a drop", x.status(), 0);
     }
