@@ -1,4 +1,5 @@
 import java.io.IOException;
+import java.io.UncheckedIOException;
 import java.nio.file.Files;
 import java.nio.file.Path;
 import java.util.List;
@@ -11,7 +12,7 @@ public final class LanguageTest {
     private static final Path MAIN = Path.of("src/main/java/GuildPiece.java");
 
     public static void main(String[] args) throws IOException {
-        String source = Files.readString(MAIN);
+        String source = source();
         String code = source.replaceAll("(?s)/\\*.*?\\*/", "").replaceAll("//[^\n]*", "");
         c.holds("the text is of signs 1 to 127", source.chars().allMatch(sign -> sign > 0 && sign < 128));
         String[] never = {"throw", "throws", "try", "catch", "finally", "synchronized", "assert", "package", "import",
@@ -27,6 +28,15 @@ public final class LanguageTest {
         parameters(code);
         lengths(Files.readAllLines(MAIN));
         c.end();
+    }
+
+    /** The text of the class. */
+    static String source() {
+        try {
+            return Files.readString(MAIN);
+        } catch (IOException e) {
+            throw new UncheckedIOException(e);
+        }
     }
 
     private static int count(String pattern, String code) {
