@@ -273,7 +273,7 @@ final class AskedBounds {
 
     private void statusOfWhom() {
         GuildPiece x = Check.told(FIVE + "e0,0,1;");
-        Check.lay(x, 0, 9, 99, 99);
+        Check.lay(x, 0, 21, 99, 99);
         s.says("that was not BAD, STATE, FULL:");
         found(x);
         x.row(8, 0, 0);
@@ -284,7 +284,7 @@ final class AskedBounds {
         x.skills(0, 0, 7);
         x.skills(0, 0, 1);
         x.who(0, 0, 0, 9);
-        x.who(0, 0, 0, 9);
+        x.who(0, 0, 0, 1);
         x.as(0, 6);
         s.due("all BAD", x.status(), 1);
         GuildPiece none = new GuildPiece();

@@ -52,6 +52,38 @@ final class ForetoldBounds {
         stays("worth(20)", x -> x.worth(20));
         stays("drawn(30, 5, 0)", x -> x.drawn(30, 5, 0));
         stays("drawn(30, 5, 1)", x -> x.drawn(30, 5, 1));
+        askedAtEachStep();
+    }
+
+    /** Acts by their numbers: a part is made (0 to 6), an elder feasted (10 on), the latest undone (20). */
+    private static final int[] STEPS = {10, 11, 12, 1, 20, 0, 3, 20, 2, 1, 20, 3, 1, 4, 20, 20, 20, 20, 20, 4, 3, 2};
+
+    private static void step(GuildPiece x, int act) {
+        if (act == 20) {
+            x.undo();
+        } else if (act >= 10) {
+            x.feast(act - 10);
+        } else {
+            x.make(act);
+        }
+    }
+
+    /** What was foretold ahead of an act leaves nothing in what is foretold behind it. */
+    private void askedAtEachStep() {
+        String text = "g2,20,9;j3,2,7;c4,3,7;w1,2,0;b11,4,7;h5,3,7;e9,0,1;e20,1,1;e12,0,1;";
+        GuildPiece asked = Check.told(text);
+        for (int steps = 0; steps <= STEPS.length; steps++) {
+            GuildPiece fresh = Check.told(text);
+            for (int i = 0; i < steps; i++) {
+                step(fresh, STEPS[i]);
+            }
+            s.dues("at step " + steps, new long[] {asked.worth(20), asked.fewest(0), asked.can(), asked.fewest(2),
+                asked.drawn(30, 5, 1), asked.fewest(1)}, fresh.worth(20), fresh.fewest(0), fresh.can(), fresh.fewest(2),
+                fresh.drawn(30, 5, 1), fresh.fewest(1));
+            if (steps < STEPS.length) {
+                step(asked, STEPS[steps]);
+            }
+        }
     }
 
     private void fewestIs(String name, GuildPiece x, int faults, int days, int first) {
@@ -96,6 +128,13 @@ final class ForetoldBounds {
         x.mend(0);
         fewestIs("what is mended does not", x, 1, 55, 1);
         fewestIs("g20,60,99;" + "w0,1,7;".repeat(7), 7, 53, 0);
+        fewestIs("what is made has taught already", made("g0,20,0;j0,1,7;j2,1,7;", 1), 1, 18, 1);
+        fewestIs("what is bought is paid already", made("g0,0,5;b0,3,7;b0,2,7;", 1), 0, 0, 1);
+        GuildPiece y = Check.told("g0,60,0;j1,1,7;j0,1,7;j0,1,7;");
+        fewestIs("the first not first", y, 0, 57, 1);
+        y.make(0);
+        y.make(2);
+        fewestIs("it was", y, 1, 57, 1);
     }
 
     private void fewestOfSeveral() {
@@ -117,6 +156,7 @@ final class ForetoldBounds {
         fewestIs("two are made", x, 0, 6, 2);
         x.make(2);
         fewestIs("nothing is left to be made", x, 0, 6, Check.NONE);
+        fewestIs("nothing is left, of what was bought", made("g0,9,9;b0,1,7;j0,1,7;", 2), 0, 8, Check.NONE);
         noRow("g0,0,0;j0,1,7;");
     }
 
@@ -172,6 +212,7 @@ final class ForetoldBounds {
         feastsAre("two of three", made("g0,9,99;j1,1,7;e0,0,7;e0,0,9;e0,0,8;", 1), 2, 5);
         feastsAre("two of two", made("g0,9,99;j1,1,7;e0,0,7;e0,0,9;", 1), 2, 3);
         feastsAre("three of five", made("g0,9,99;j1,1,7;e0,0,9;e0,0,8;e0,0,7;e0,0,6;e0,0,5;", 1), 3, 28);
+        feastsAre("what is made without a fault", made("g0,9,99;j0,1,7;e0,0,1;", 1), 0, 0);
         feastsAre("no elders", made("g0,9,99;j1,1,7;", 1), 0, 0);
         s.says("(by MONEY there is) so");
         feastsAre("just enough", made("g0,9,12;j1,1,7;e0,0,6;e0,0,6;e0,0,6;", 1), 2, 3);
@@ -209,6 +250,7 @@ final class ForetoldBounds {
         mendsAre("one rather than two that are less",
             made("g0,60,0;w0,1,7;w0,1,7;j9,1,7;e0,0,1;e20,1,1;e0,7,1;", 3), 1, 4);
         mendsAre("all seven", made("g0,60,0;" + "w0,1,7;".repeat(7) + "e20,0,1;", 7), 7, 127);
+        mendsAre("what is made without a fault", made("g0,60,0;j0,1,7;w0,1,7;e20,0,1;", 2), 1, 2);
         mendsAre("no elders", made("g0,60,0;w0,1,7;", 1), 0, 0);
         // the joint is found by the first, the wax by the second alone; the third votes for it
         GuildPiece x = made("g0,43,0;j9,20,7;w0,1,7;w0,1,7;e0,0,1;e20,1,1;e0,7,1;", 3);
@@ -395,6 +437,7 @@ final class ForetoldBounds {
         errIs("one for, one against", two, 1, 9, 100);
         errIs("three for", three, 1, 243, 250);
         errIs("three for", three, 5, 1, 2);
+        errIs("one for what is made without a fault", made("g0,60,0;j0,1,7;e0,0,1;", 1), 1, 9, 10);
         s.says("how likely it WINS: a fraction.");
         errIs("one against", one, 0, 0, 1);
         errIs("one against", one, 10, 1, 1);

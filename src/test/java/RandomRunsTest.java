@@ -252,7 +252,7 @@ public final class RandomRunsTest {
             due("who " + part + " " + row + " " + i + " " + n, x.who(part, row, i, n), m.who(part, row, i, n));
         }
         due("status", x.status(), m.status());
-        return items + 4;
+        return 2 * items + 5;
     }
 
     private int likely(int way, int k, int part) {
