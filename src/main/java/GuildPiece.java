@@ -493,7 +493,8 @@ public final class GuildPiece {
             return BAD;
         }
         bodies.takeUp(now, one);
-        return what == 0 ? bodies.askSize(0) : bodies.askMark(0);
+        int body = what == 0 ? Bodies.ofSize(now.kinds[one]) : Bodies.ofMark(now.kinds[one]);
+        return bodies.give(body, 0);
     }
 
     public int trace(int i) {
@@ -1035,13 +1036,17 @@ public final class GuildPiece {
             return true;
         }
 
-        /** A number from least to most, or one other that may stand there too. */
+        /** A number from least to most, or one other that may stand there too; of a run three figures tell enough. */
         private boolean readNumber(int least, int most, int other) {
-            int figures = figuresAt(at);
+            int figures = 0;
+            number = 0;
+            while (figures < 3 && isFigure(letterAt(at + figures))) {
+                number = 10 * number + letterAt(at + figures) - '0';
+                figures++;
+            }
             if (figures < 1 || figures > 2) {
                 return fail(1);
             }
-            number = valueAt(at, figures);
             if ((number < least || number > most) && number != other) {
                 return fail(2);
             }
@@ -1060,25 +1065,8 @@ public final class GuildPiece {
             return i >= 0 && i < length && i < LONGEST ? letters[i] : -1;
         }
 
-        private boolean isFigure(int letter) {
+        private static boolean isFigure(int letter) {
             return letter >= '0' && letter <= '9';
-        }
-
-        /** How many figures stand in a run from i on; three stand for all more. */
-        private int figuresAt(int i) {
-            int figures = 0;
-            while (figures < 3 && isFigure(letterAt(i + figures))) {
-                figures++;
-            }
-            return figures;
-        }
-
-        private int valueAt(int i, int figures) {
-            int value = 0;
-            for (int k = 0; k < figures; k++) {
-                value = 10 * value + letterAt(i + k) - '0';
-            }
-            return value;
         }
 
         private static int kindOf(int letter) {
@@ -1155,14 +1143,12 @@ public final class GuildPiece {
 
         private void reckon(Trial t, int moreDays) {
             int all = (1 << t.parts) - 1;
-            for (int set = t.made; set <= all; set = (set + 1) | t.made) {
-                for (int k = 0; k < COUNTS; k++) {
-                    best[set * COUNTS + k] = UNREACHED;
-                }
+            for (int i = 0; i < (all + 1) * COUNTS; i++) {
+                best[i] = UNREACHED;
             }
             best[t.made * COUNTS + Integer.bitCount(t.faulty)] = 8 * (t.days + moreDays);
             reached = 0;
-            for (int set = t.made; set <= all; set = (set + 1) | t.made) {
+            for (int set = t.made; set <= all; set++) {
                 if (isReached(set)) {
                     reached |= set;
                     goOnFrom(t, set);
@@ -1252,94 +1238,70 @@ public final class GuildPiece {
             }
         }
 
-        private int askSize(int depth) {
-            if (depth > DEEPEST) {
-                return NONE;
-            }
+        /** Which body begins when one of this kind is asked its size. */
+        private static int ofSize(int kind) {
             switch (kind) {
                 case JOINT:
                 case HIDDEN:
-                    return sizeOfJoint(depth);
+                    return 11;
                 case CARVED:
-                    return sizeOfCarved(depth);
+                    return 12;
                 case WAX:
-                    return sizeOfWax();
+                    return 13;
                 case BOUGHT:
-                    return sizeOfBought();
+                    return 14;
                 default:
-                    return sizeLent();
+                    return 10;
             }
         }
 
-        private int askMark(int depth) {
+        /** Which body begins when one of this kind is asked its mark. */
+        private static int ofMark(int kind) {
+            switch (kind) {
+                case JOINT:
+                    return 21;
+                case HIDDEN:
+                    return 22;
+                case WAX:
+                case BOUGHT:
+                    return 23;
+                case CARVED:
+                    return 24;
+                default:
+                    return 20;
+            }
+        }
+
+        /** What a body gives, by the document's numbers; those within it begin from left to right. */
+        private int give(int body, int depth) {
             if (depth > DEEPEST) {
                 return NONE;
             }
-            switch (kind) {
-                case JOINT:
-                    return markOfJoint();
-                case CARVED:
-                    return markOfCarved();
-                case HIDDEN:
-                    return markOfHidden();
-                case WAX:
-                case BOUGHT:
-                    return markOfWax(depth);
+            begin(body);
+            switch (body) {
+                case 10:
+                    return time;
+                case 11:
+                    return give(10, depth + 1) + give(ofMark(kind), depth + 1);
+                case 12:
+                    return 0 - give(11, depth + 1);
+                case 13:
+                    return give(10, depth + 1) - 100;
+                case 14:
+                    return 2 * give(13, depth + 1);
+                case 20:
+                    return part;
+                case 21:
+                    return give(20, depth + 1) + need;
+                case 22:
+                    return give(21, depth + 1) - 1000;
+                case 23:
+                    return give(20, depth + 1) - give(ofSize(kind), depth + 1);
+                case 24:
+                    return 2 * give(21, depth + 1);
                 default:
-                    return markLent();
+                    return NONE;
             }
-        }
-
-        private int sizeLent() {
-            begin(10);
-            return time;
-        }
-
-        private int sizeOfJoint(int depth) {
-            begin(11);
-            int lent = sizeLent();
-            return lent + askMark(depth + 1);
-        }
-
-        private int sizeOfCarved(int depth) {
-            begin(12);
-            return 0 - sizeOfJoint(depth);
-        }
-
-        private int sizeOfWax() {
-            begin(13);
-            return sizeLent() - 100;
-        }
-
-        private int sizeOfBought() {
-            begin(14);
-            return 2 * sizeOfWax();
-        }
-
-        private int markLent() {
-            begin(20);
-            return part;
-        }
-
-        private int markOfJoint() {
-            begin(21);
-            return markLent() + need;
-        }
-
-        private int markOfHidden() {
-            begin(22);
-            return markOfJoint() - 1000;
-        }
-
-        private int markOfWax(int depth) {
-            begin(23);
-            int lent = markLent();
-            return lent - askSize(depth + 1);
-        }
-
-        private int markOfCarved() {
-            begin(24);
-            return 2 * markOfJoint();
         }
     }
 }

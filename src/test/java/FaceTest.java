@@ -1,24 +1,25 @@
+import java.io.IOException;
 import java.lang.reflect.Constructor;
 import java.lang.reflect.Field;
 import java.lang.reflect.Method;
 import java.lang.reflect.Modifier;
+import java.nio.file.Files;
+import java.nio.file.Path;
 import java.util.Set;
 import java.util.TreeSet;
+import java.util.regex.Matcher;
+import java.util.regex.Pattern;
 
 /** The public face: every member of the document, and no other that is not private. */
 public final class FaceTest {
     private static final Check c = new Check("face");
-    private static final String METHODS = "int row(int,int,int) int set(int,int,int) int copy(int,int,int,int,int) "
-        + "int drop(int) int feed(int) int trial() int fault() int undo() int make(int) int mend(int) int feast(int) "
-        + "int idle(int) int lesson() int part(int,int) int elder(int,int) int stand(int) int fewest(int) int can() "
-        + "int feasts(int) int mends(int) int decides() int whereIs(int,int,int) int skills(int,int,int) "
-        + "int who(int,int,int,int) long err(int,int) int worth(int) int drawn(int,int,int) int image(int) "
-        + "int restore(int) int kind(int) int as(int,int) int ask(int,int) int trace(int) int count(int) int status()";
+    private static final Path DOCUMENT = Path.of("../shared/DOC.md");
 
-    public static void main(String[] args) {
+    public static void main(String[] args) throws IOException {
         c.holds("the class is public and final", GuildPiece.class.getModifiers() == (Modifier.PUBLIC | Modifier.FINAL));
-        methods();
-        constants();
+        String told = told();
+        methods(told);
+        constants(told);
         Constructor<?>[] made = GuildPiece.class.getDeclaredConstructors();
         c.due("constructors", made.length, 1);
         c.holds("it is public, without parameters",
@@ -35,13 +36,23 @@ public final class FaceTest {
         return s.append(")").toString();
     }
 
-    private static void methods() {
+    /** What the document itself shows under 'The public face'. */
+    private static String told() throws IOException {
+        String text = Files.readString(DOCUMENT);
+        int from = text.indexOf("## The public face");
+        int to = text.indexOf("\n## ", from);
+        c.holds("the document shows the face", from >= 0 && to > from);
+        return text.substring(Math.max(0, from), Math.max(Math.max(0, from), to));
+    }
+
+    private static void methods(String told) {
         Set<String> want = new TreeSet<>();
         Set<String> names = new TreeSet<>();
-        String[] words = METHODS.split(" ");
-        for (int i = 0; i < words.length; i += 2) {
-            want.add(words[i] + " " + words[i + 1]);
-            names.add(words[i + 1].substring(0, words[i + 1].indexOf('(')));
+        Matcher line = Pattern.compile("public (int|long) (\\w+)\\(([^)]*)\\);").matcher(told);
+        while (line.find()) {
+            String types = line.group(3).replaceAll(" \\w+(?=,|$)", "").replace(" ", "");
+            want.add(line.group(1) + " " + line.group(2) + "(" + types + ")");
+            names.add(line.group(2));
         }
         Set<String> got = new TreeSet<>();
         for (Method m : GuildPiece.class.getDeclaredMethods()) {
@@ -56,7 +67,14 @@ public final class FaceTest {
         c.holds("they are " + want + ", and were " + got, want.equals(got));
     }
 
-    private static void constants() {
+    private static void constants(String told) {
+        Matcher value = Pattern.compile("(\\w+) = (-?\\d+)").matcher(told);
+        int many = 0;
+        while (value.find()) {
+            many++;
+            c.due(value.group(1), constant(value.group(1)), Long.parseLong(value.group(2)));
+        }
+        c.due("constants", many, 4);
         c.due("NONE", GuildPiece.NONE, -1000000);
         c.due("BAD", GuildPiece.BAD, -1000001);
         c.due("STATE", GuildPiece.STATE, -1000002);
@@ -68,6 +86,14 @@ public final class FaceTest {
             c.holds("a static field is final: " + f.getName(), !Modifier.isStatic(how) || Modifier.isFinal(how));
         }
         c.due("fields that are not private", open, 4);
+    }
+
+    private static long constant(String name) {
+        try {
+            return GuildPiece.class.getField(name).getInt(null);
+        } catch (ReflectiveOperationException e) {
+            return Long.MIN_VALUE;
+        }
     }
 
     private static void inside() {

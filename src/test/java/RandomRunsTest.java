@@ -23,6 +23,9 @@ public final class RandomRunsTest {
             while (calls < CALLS - 120) {
                 calls += one.step();
             }
+            while (calls < CALLS) {
+                calls += one.acts();
+            }
         }
         c.end();
     }
